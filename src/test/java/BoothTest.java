@@ -8,6 +8,7 @@ public final class BoothTest {
         offices();
         straps();
         rowsThatMayBe();
+        oneLeverHeld();
         proofs();
         needs();
         orders();
@@ -105,6 +106,14 @@ public final class BoothTest {
         Due.is(12, x.rows(), "rows");
         Due.is(NONE, x.proof(0), "nothing beats");
         Due.is(6, x.proof(1), "barred");
+    }
+
+    private static void oneLeverHeld() {
+        LeverCurtain x = new LeverCurtain(2);
+        x.strap(1, 0);
+        Due.is(0, x.may(1, 0), "a strap on lever 0 alone");
+        Due.is(2, x.rows(), "rows with it");
+        Due.is(1, x.proof(1), "barred by it");
     }
 
     private static void proofs() {

@@ -30,6 +30,7 @@ public final class FitTest {
         tills();
         tillChoices();
         votersByLaw();
+        lastMachine();
         Due.end();
     }
 
@@ -326,6 +327,12 @@ public final class FitTest {
         Due.is(NONE, x.sets(0, -1), "no such what");
         Due.is(NONE, x.sets(1, 0), "no such machine");
         Due.is(NONE, x.sets(-1, 0), "no such machine");
+        LeverCurtain none = booth(2, 3, 1, 9);
+        show(none, 0, 5, 0);
+        none.trouble(0, DEAD, 0, 0);
+        for (int what = 0; what < 3; what++) {
+            Due.is(0, none.sets(0, what), "no fault is the only set that fits");
+        }
         LeverCurtain y = booth(3, 7, 1, 9);
         show(y, 0, 3, 4, 5);
         y.trouble(0, BEGAN, 1, 1);
@@ -533,6 +540,31 @@ public final class FitTest {
         till(z, 0, 0b1001, 2);
         z.show(1, 0, 28);
         till(z, 0, 0b0011, 2);
+    }
+
+    private static void lastMachine() {
+        LeverCurtain x = new LeverCurtain(16);
+        x.office(3 << 14, 1);
+        for (int machine = 0; machine < 6; machine++) {
+            x.machine(900, 0, 0, 0, 0);
+            show(x, machine, 1, 2, 3, 4, 5, 6, 7, 8, 9, 10, 11, 12, 13, 14, 100 + machine, 50);
+            for (int fault = 0; fault < 7; fault++) {
+                Due.is(fault, x.trouble(machine, DEAD, fault, 0), "trouble");
+            }
+            Due.is(7, x.trouble(machine, SWAPPED, 15, 14), "trouble");
+            Due.is(256, x.fitting(machine, NONE), "fitting on machine " + machine);
+            span(x, machine, 14, 50, 100 + machine);
+            Due.yes(x.cost(machine, 10 + machine), "cost");
+        }
+        Due.is(300, x.total(14, 0), "50 on each");
+        Due.is(615, x.total(14, 1), "100 and more on each");
+        Due.is(-315, x.ahead(14, 15), "all swapped");
+        // each opened brings twice 50 and its number: three of numbers that come to eight bring 316
+        till(x, 14, 0b101001, 10 + 13 + 15);
+        Due.yes(x.open(5, 0), "open");
+        till(x, 14, 0b001001, 10 + 13);
+        Due.yes(x.open(5, 128), "open");
+        till(x, 15, NONE, NONE);
     }
 
     private static void votersByLaw() {

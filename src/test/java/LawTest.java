@@ -43,6 +43,12 @@ public final class LawTest {
         Due.is(NONE, y.feed(0, 0, 1, 0, 0), "feed above 120");
         Due.is(120, y.feed(0, 0, 0, 0, 0), "feed of nothing on a full tape");
         Due.is(0, y.fault(), "a byte that no law begins with");
+        y.end(119);
+        for (int number = 0; number < 5; number++) {
+            int[] n = new int[5];
+            n[number] = 0x01000001;
+            Due.is(NONE, y.feed(n[0], n[1], n[2], n[3], n[4]), "two more in number " + number);
+        }
     }
 
     private static void ending() {
@@ -144,6 +150,8 @@ public final class LawTest {
         fault("y:((((((1=1))))))?1", NONE);
         fault("y:(((((((1=1)))))))?1", 8);
         fault("y:!!!!!!1=1?1", NONE);
+        fault("y:1=1?[[[[[[[1]]]]]]]", 12);
+        fault("y:1=[[[[[[[1]]]]]]]?1", 10);
         fault("y:!!!!!!!1=1?1", 8);
         fault("y:!(!([[1]]=2))?1", NONE);
         fault("y:!(!([[[1]]]=2))?1", 8);

@@ -216,6 +216,18 @@ public final class PaperTest {
         Due.is(4, x.papers(1), "papers that agree");
         Due.is(3, x.papers(2), "papers disputed");
         Due.is(4, x.papers(3), "papers read unlike");
+        LeverCurtain y = new LeverCurtain(2);
+        know(y, "anna");
+        read(y, 3, 4, "anna");
+        read(y, 0, 5, "bnna");
+        read(y, 3, 5, "bnna");
+        read(y, 0, 6, "cnna");
+        Due.is(0, y.papers(3), "papers beside each other are not one");
+        Due.is(3, y.papers(1), "each agrees");
+        Due.is(NONE, y.far(-1, 5, 0), "hand -1");
+        Due.is(NONE, y.far(4, 5, 0), "hand 4");
+        Due.is(NONE, y.goes(-1, 5), "hand -1");
+        Due.is(NONE, y.goes(4, 5), "hand 4");
         Due.is(NONE, x.papers(4), "no such what");
         Due.is(NONE, x.papers(-1), "no such what");
     }

@@ -169,6 +169,21 @@ public final class SealTest {
         }
         Due.is(NONE, x.placeAt(1, 0), "no such machine");
         Due.is(NONE, x.placeAt(-1, 0), "no such machine");
+        LeverCurtain six = new LeverCurtain(2);
+        for (int machine = 0; machine < 6; machine++) {
+            six.machine(0, 0, 0, 0, 0);
+            for (int event = 1; event <= 20; event++) {
+                int kind = event == 10 ? SEALED : event == 12 ? SEEN : MOVED;
+                Due.is(event, six.event(machine, 10 * event + machine, kind, (event + machine) % 10), "event");
+            }
+        }
+        for (int machine = 0; machine < 6; machine++) {
+            Due.is((19 + machine) % 10, six.placeAt(machine, 199 + machine), "place on machine " + machine);
+            Due.is((20 + machine) % 10, six.placeAt(machine, 200 + machine), "the last place on it");
+            Due.is((20 + machine) % 10, six.placeAt(machine, 9999), "the last place on it, later");
+            Due.is(1 << 11, six.badOnes(machine), "bad on machine " + machine);
+            Due.is(9999 - 10, six.exposed(machine, 0, 9999), "exposed on machine " + machine);
+        }
     }
 
     private static void alone() {
@@ -204,6 +219,23 @@ public final class SealTest {
         }
         Due.is(NONE, x.recount(0, 2, 5), "a ninth recount");
         Due.is(1, x.recount(0, 1, 0), "of another lever");
+        LeverCurtain six = new LeverCurtain(16);
+        for (int machine = 0; machine < 6; machine++) {
+            six.machine(0, 0, 0, 0, 0);
+            for (int i = 0; i < 8; i++) {
+                Due.is(i + 1, six.recount(machine, 15, 100 * machine + i), "recount of the last lever");
+                Due.is(i + 1, six.recount(machine, 0, 500 + i), "recount of the first lever");
+            }
+        }
+        for (int machine = 0; machine < 6; machine++) {
+            for (int i = 0; i < 8; i++) {
+                Due.is(100 * machine + i, six.kept(machine, 15, i), "kept of the last lever");
+            }
+            Due.is(NONE, six.recount(machine, 15, 1), "a ninth of the last lever");
+            Due.is(1 << 15 | 1, six.differs(machine), "the first and the last differ");
+            Due.is(2, six.take(machine), "both are taken");
+            Due.is(8, six.changed(machine, 15), "each is unlike the one before");
+        }
         for (int i = 0; i < 8; i++) {
             Due.is(999 - i, x.kept(0, 2, i), "kept " + i);
         }

@@ -67,6 +67,8 @@ public final class TrialTest {
         sees(1, BEGAN, 0, 1, 0, 0);
         sees(1, BEGAN, 1, 999, 3, 200);
         sees(0, BEGAN, 2, 5, 4, 1);
+        sees(1, BEGAN, 0, 2, 1, 1);
+        sees(1, BEGAN, 1, 400, 2, 200);
     }
 
     private static void seenOfSwapped() {
@@ -105,6 +107,15 @@ public final class TrialTest {
         Due.is(0b10, x.sees(0, 0), "the row is not let: it counts for nothing");
         x.unstrap();
         Due.is(0b11, x.sees(0, 0), "with no strap again");
+        x.strap(1, 0);
+        Due.is(0b10, x.sees(0, 0), "a strap on lever 0 alone");
+        x.trouble(0, SWAPPED, 0, 2);
+        x.trouble(0, SWAPPED, 2, 0);
+        x.trouble(0, STICKS, 0, 0);
+        x.test(5, 50);
+        x.test(1, 50);
+        Due.is(0b10, x.sees(1, 0), "a row that it does not let");
+        Due.is(0b10, x.sees(2, 0), "another that it does not let");
     }
 
     private static void seenOfOff() {
