@@ -19,6 +19,7 @@ public final class FitEdgeTest {
         pullsOfALever();
         pullsOfAnOffice();
         pullsWithStrapsOff();
+        strapsOffTwice();
         onesStick();
         tensStick();
         lesserOfBothWheels();
@@ -26,6 +27,8 @@ public final class FitEdgeTest {
         swappedTwice();
         faultsOfTheCounterAsMarked();
         deadOrNot();
+        deadWhateverB();
+        deadTwiceAndOthers();
         beganGoingRound();
         beganLatestTold();
         deadAndSticking();
@@ -33,6 +36,7 @@ public final class FitEdgeTest {
         fittingNumbers();
         fittingNone();
         fewestSureMay();
+        fewestFirst();
         fewestLowerWhereTwoDiffer();
         setsOfEight();
         Due.end();
@@ -205,6 +209,18 @@ public final class FitEdgeTest {
         fits(x, 0, "just so many", 0, 1, 2, 3);
     }
 
+    private static void strapsOffTwice() {
+        LeverCurtain x = booth(4, 3, 1, 10);
+        x.office(12, 1);
+        trouble(x, 0, OFF, 0, 0);
+        trouble(x, 0, OFF, 0, 7);
+        trouble(x, 0, OFF, 1, 7);
+        show(x, 0, 6, 5);
+        fits(x, 0, "told twice of office 0", 1, 2, 3, 5, 6, 7);
+        x.show(0, 2, 11);
+        fits(x, 0, "one lever more than voters");
+    }
+
     private static void onesStick() {
         LeverCurtain x = booth(2, 3, 2, 109);
         trouble(x, 0, STICKS, 0, 0);
@@ -344,6 +360,41 @@ public final class FitEdgeTest {
         trouble(x, 0, OFF, 0, 0);
         show(x, 0, 0, 50);
         span(x, 0, 0, 0, 50, "with straps off the other leaves all");
+    }
+
+    /** b of DEAD is not asked: the counter did not begin there, nor are that OFFICE's straps off. */
+    private static void deadWhateverB() {
+        for (int b : new int[] {Integer.MIN_VALUE, -1, 0, 1, 5, 1000, Integer.MAX_VALUE}) {
+            LeverCurtain x = booth(2, 3, 1, 51);
+            trouble(x, 0, DEAD, 0, b);
+            show(x, 0, 0, 20);
+            fits(x, 0, "0 by a dead one, b " + b, 0, 1);
+            span(x, 0, 0, 0, 31, "what the other leaves");
+            show(x, 0, 5, 20);
+            fits(x, 0, "5 by a dead one, b " + b, 0);
+            show(x, 0, 1, 51);
+            fits(x, 0, "one too many, b " + b);
+        }
+    }
+
+    private static void deadTwiceAndOthers() {
+        LeverCurtain x = booth(2, 3, 1, 51);
+        trouble(x, 0, DEAD, 0, 0);
+        trouble(x, 0, DEAD, 1, 0);
+        trouble(x, 0, DEAD, 0, 0);
+        fits(x, 0, "both dead", 0, 1, 2, 3, 4, 5, 6, 7);
+        Due.yes(x.open(0, 5), "23: one of them, told twice");
+        span(x, 0, 0, 0, 51, "told twice");
+        span(x, 0, 1, 0, 0, "not dead");
+        Due.yes(x.open(0, 3), "23: both");
+        span(x, 0, 0, 0, 51, "both dead");
+        span(x, 0, 1, 0, 51, "both dead");
+        show(x, 0, 1, 0);
+        fits(x, 0, "1 on the first", 0, 2);
+        show(x, 0, 0, 1);
+        fits(x, 0, "1 on the second", 0, 1, 4, 5);
+        Due.yes(x.open(0, 5), "23: one of them, told twice");
+        span(x, 0, 0, 0, 50, "the other leaves fifty");
     }
 
     private static void beganGoingRound() {
@@ -497,6 +548,28 @@ public final class FitEdgeTest {
         Due.is(fewest, x.sets(0, 0), "21: fewest: " + what);
         Due.is(sure, x.sets(0, 1), "21: sure: " + what);
         Due.is(may, x.sets(0, 2), "21: may: " + what);
+    }
+
+    private static void fewestFirst() {
+        LeverCurtain x = booth(3, 7, 1, 10);
+        show(x, 0, 5, 5, 4);
+        trouble(x, 0, BEGAN, 0, 2);
+        trouble(x, 0, BEGAN, 1, 2);
+        Due.is(0b0011, x.sets(0, 0), "21: four too many: two of two");
+        trouble(x, 0, BEGAN, 2, 4);
+        Due.is(0b0100, x.sets(0, 0), "21: one later instead of two");
+        trouble(x, 0, OFF, 0, 0);
+        Due.is(0b0100, x.sets(0, 0), "21: of two alone the lower");
+        show(x, 0, 5, 5, 0);
+        Due.is(0, x.sets(0, 0), "21: none is needed");
+        LeverCurtain y = booth(2, 3, 1, 10);
+        show(y, 0, 9, 9);
+        trouble(y, 0, BEGAN, 0, 3);
+        trouble(y, 0, BEGAN, 0, 5);
+        trouble(y, 0, BEGAN, 1, 3);
+        trouble(y, 0, BEGAN, 1, 5);
+        // eight too many: 3 and 5, 5 and 3 bring just that, 5 and 5 more; of one counter the latest counts
+        Due.is(0b1001, y.sets(0, 0), "21: 0 and 3 before 1 and 2");
     }
 
     /** One office of four levers, ten voters; what the sum is too high by is what the counters began at. */

@@ -15,6 +15,8 @@ public final class LawEdgeTest {
         endWithin();
         endCutsOff();
         faultOfEmpty();
+        faultOfEmptied();
+        faultOfShortened();
         faultOfEachPrefix();
         faultOfEachByte();
         fifthDigit();
@@ -171,6 +173,47 @@ public final class LawEdgeTest {
         fault("", 0);
         fault(" ", 1);
         fault("   ", 3);
+    }
+
+    /** What a TAPE held before it was emptied counts no more. */
+    private static void faultOfEmptied() {
+        LeverCurtain x = new LeverCurtain(2);
+        Due.tape(x, "y:1");
+        Due.yes(x.end(0), "11: end");
+        Due.is(0, x.fault(), "12: emptied by end");
+        Due.is(NONE, x.law(), "13: emptied by end");
+        Due.tape(x, "y:1");
+        Due.is(0, x.law(), "13: a law");
+        Due.is(0, x.fault(), "12: emptied by law");
+        Due.is(NONE, x.law(), "13: emptied by law");
+        Due.tape(x, "yes");
+        Due.is(0, x.known(), "34: a name");
+        Due.is(0, x.fault(), "12: emptied by known");
+        Due.is(NONE, x.known(), "34: emptied by known");
+        Due.tape(x, "yes");
+        Due.yes(x.read(0, 0), "35: a reading");
+        Due.is(0, x.fault(), "12: emptied by read");
+        Due.no(x.read(1, 0), "35: emptied by read");
+    }
+
+    private static void faultOfShortened() {
+        LeverCurtain x = new LeverCurtain(2);
+        x.machine(9, 0, 0, 0, 0);
+        Due.tape(x, "y:123+4");
+        Due.is(NONE, x.fault(), "12: the whole");
+        Due.yes(x.end(4), "11: end");
+        Due.is(NONE, x.fault(), "12: shortened");
+        Due.is(0, x.law(), "13: shortened");
+        x.use(0);
+        Due.is(12, x.voters(0), "16: by the shortened one");
+        Due.tape(x, "y:s=1?5;y:77777");
+        Due.is(14, x.fault(), "12: a fifth digit");
+        Due.yes(x.end(13), "11: end");
+        Due.is(NONE, x.fault(), "12: shortened");
+        Due.yes(x.end(8), "11: end");
+        Due.is(8, x.fault(), "12: ended too early");
+        Due.yes(x.end(7), "11: end");
+        Due.is(NONE, x.fault(), "12: shortened");
     }
 
     /** Each prefix of these is the beginning of a LAW: ended too early, but for those told by their lengths. */

@@ -21,6 +21,7 @@ public final class PaperEdgeTest {
         farExtremes();
         farByEachWay();
         farOfDots();
+        farOfOneReadingAlone();
         goesByLimit();
         goesInDoubt();
         goesNone();
@@ -260,8 +261,10 @@ public final class PaperEdgeTest {
         Due.is(want, x.far(3, 29, 0), "37: «" + text + "» from " + name);
         LeverCurtain y = known();
         read(y, 0, 0, text);
+        read(y, 3, 29, text);
         know(y, name);
         Due.is(want, y.far(0, 0, 0), "37: «" + text + "» from " + name + ", known later");
+        Due.is(want, y.far(3, 29, 0), "37: «" + text + "» from " + name + ", known later, by the last hand");
     }
 
     private static void farExtremes() {
@@ -306,6 +309,23 @@ public final class PaperEdgeTest {
         far(1, "a.d", "abc");
         far(1, "a..", "ab");
         far(2, "x.x", "abc");
+    }
+
+    /** What stands beside a reading, before and behind it, counts for nothing. */
+    private static void farOfOneReadingAlone() {
+        LeverCurtain x = known("ab", "abcdefgh");
+        for (int hand = 0; hand < 4; hand++) {
+            read(x, hand, 7, "abababab");
+        }
+        read(x, 1, 7, "b");
+        Due.is(1, x.far(1, 7, 0), "37: between two of eight letters");
+        Due.is(7, x.far(1, 7, 1), "37: between two of eight letters");
+        read(x, 1, 7, "bcdefgha");
+        Due.is(2, x.far(1, 7, 1), "37: eight letters between two of eight");
+        read(x, 1, 7, "a");
+        Due.is(1, x.far(1, 7, 0), "37: one letter instead of eight");
+        Due.is(6, x.far(0, 7, 0), "37: the one before");
+        Due.is(6, x.far(2, 7, 0), "37: the one behind");
     }
 
     private static void goesByLimit() {

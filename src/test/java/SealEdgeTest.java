@@ -20,7 +20,9 @@ public final class SealEdgeTest {
         eventMachines();
         eventTimes();
         eventKindsAndValues();
+        eventsBelowTheFirst();
         eventsTwenty();
+        eventsOfAllMachines();
         badNone();
         badSeenWhileShut();
         badSeenWhileOpen();
@@ -38,6 +40,7 @@ public final class SealEdgeTest {
         aloneAtOtherPlaces();
         recountWithin();
         recountsEight();
+        recountsOfAllMachines();
         keptWithin();
         changedFromWhatIsShown();
         differsNoneAndAll();
@@ -177,6 +180,39 @@ public final class SealEdgeTest {
         Due.is(0b100100, y.badOnes(0), "46: just that number");
     }
 
+    private static void eventsBelowTheFirst() {
+        LeverCurtain x = machine();
+        Due.is(1, x.event(0, 50, MOVED, 1), "45: the first");
+        Due.is(NONE, x.event(0, 49, MOVED, 2), "45: one below the first");
+        Due.is(NONE, x.event(0, 0, MOVED, 2), "45: far below the first");
+        Due.is(2, x.event(0, 50, MOVED, 3), "45: just then");
+        Due.is(NONE, x.event(0, 49, MOVED, 2), "45: one below the second");
+        Due.is(3, x.placeAt(0, 50), "48: of these alone");
+        Due.is(0, x.placeAt(0, 49), "48: nothing of those refused");
+    }
+
+    /** Twenty on each of six: each MACHINE has its own times, numbers and PLACES. */
+    private static void eventsOfAllMachines() {
+        LeverCurtain x = new LeverCurtain(2);
+        for (int machine = 0; machine < 6; machine++) {
+            x.machine(0, 0, 0, 0, 0);
+            for (int i = 0; i < 20; i++) {
+                int kind = i == 3 ? SEALED : i == 4 + machine ? SEEN : MOVED;
+                int v = kind == MOVED ? (i + machine) % 10 : 700 + machine;
+                Due.is(i + 1, x.event(machine, i == 19 ? LAST : 10 * i, kind, v), "45: on machine " + machine);
+            }
+            Due.is(NONE, x.event(machine, LAST, CUT, 0), "45: a twenty-first on machine " + machine);
+        }
+        for (int machine = 0; machine < 6; machine++) {
+            Due.is(0, x.badOnes(machine), "46: on machine " + machine);
+            Due.is(30, x.exposed(machine, 0, LAST), "47: on machine " + machine);
+            Due.is(machine, x.placeAt(machine, 0), "48: at first on machine " + machine);
+            Due.is((18 + machine) % 10, x.placeAt(machine, 9998), "48: before the last on machine " + machine);
+            Due.is((19 + machine) % 10, x.placeAt(machine, LAST), "48: at last on machine " + machine);
+            Due.is(20, x.alone(machine, machine, 0, LAST), "49: but for the first on machine " + machine);
+        }
+    }
+
     private static void eventsTwenty() {
         LeverCurtain x = machine();
         for (int i = 1; i <= 20; i++) {
@@ -254,9 +290,11 @@ public final class SealEdgeTest {
 
     private static void badAllTwenty() {
         LeverCurtain x = machine();
+        x.machine(0, 0, 0, 0, 0);
         for (int i = 0; i < 20; i++) {
             event(x, i, SEEN, 1);
             Due.is((2 << i) - 1, x.badOnes(0), "46: all of " + (i + 1));
+            Due.is(0, x.badOnes(1), "46: none of another machine");
         }
     }
 
@@ -441,6 +479,26 @@ public final class SealEdgeTest {
         Due.is(2, x.take(0), "54: both are taken");
         Due.is(NONE, x.recount(0, 0, 1), "50: a ninth, as all are kept");
         Due.is(8, x.changed(0, 0), "52: the first is unlike what is shown now");
+    }
+
+    private static void recountsOfAllMachines() {
+        LeverCurtain x = new LeverCurtain(16);
+        for (int machine = 0; machine < 6; machine++) {
+            x.machine(0, 0, 0, 0, 0);
+            for (int i = 0; i < 8; i++) {
+                Due.is(i + 1, x.recount(machine, 15, 100 * machine + i), "50: of the last lever");
+                Due.is(i + 1, x.recount(machine, 0, 100 * machine + 50 + i), "50: of the first lever");
+            }
+        }
+        for (int machine = 0; machine < 6; machine++) {
+            for (int i = 0; i < 8; i++) {
+                Due.is(100 * machine + i, x.kept(machine, 15, i), "51: of the last lever of machine " + machine);
+                Due.is(100 * machine + 50 + i, x.kept(machine, 0, i), "51: of the first lever of machine " + machine);
+            }
+            Due.is(1 << 15 | 1, x.differs(machine), "53: the first and the last of machine " + machine);
+            Due.is(machine == 0 ? 7 : 8, x.changed(machine, 15), "52: of the last lever of machine " + machine);
+            Due.is(2, x.take(machine), "54: the first and the last of machine " + machine);
+        }
     }
 
     private static void keptWithin() {

@@ -24,6 +24,7 @@ public final class TallyEdgeTest {
         openedWithOthersToldLater();
         totalOfNoMachine();
         totalOfSix();
+        totalOfMachinesApart();
         totalNone();
         aheadOfNoMachine();
         aheadHidden();
@@ -258,6 +259,19 @@ public final class TallyEdgeTest {
         }
         trouble(x, 5, BEGAN, 15, 999);
         total(x, 15, 999 * 5, 999 * 6, "0 or 999 on the last");
+    }
+
+    private static void totalOfMachinesApart() {
+        LeverCurtain x = booth(2, 3, 1, 51, 51);
+        show(x, 0, 5, 6);
+        trouble(x, 1, DEAD, 0, 0);
+        trouble(x, 1, DEAD, 1, 0);
+        Due.yes(x.open(1, 3), "23: both dead");
+        total(x, 0, 5, 56, "5, and what can be with both dead");
+        total(x, 1, 6, 57, "6, and what can be with both dead");
+        span(x, 0, 0, 5, 5, "as shown");
+        span(x, 1, 0, 0, 51, "dead");
+        Due.is(5 - 6 - 51, x.ahead(0, 1), "25: the other has all");
     }
 
     private static void totalNone() {

@@ -166,6 +166,7 @@ public final class TrialEdgeTest {
             sees(true, BEGAN, 0, 800, 1, times);
             sees(true, BEGAN, 1, 200, 1, times);
             sees(true, BEGAN, 1, 500, 0, times);
+            sees(true, BEGAN, 0, Math.max(1, 2 * times), 1, times);
             sees(false, BEGAN, 2, 1, 7, times);
         }
     }
@@ -208,6 +209,18 @@ public final class TrialEdgeTest {
         Due.is(0b1111, x.sees(2, 0), "30: one lever again");
         x.strap(0b1000, 0);
         Due.is(0b1111, x.sees(2, 0), "30: a strap on another lever");
+        for (int held = 0; held < 3; held++) {
+            LeverCurtain y = booth(3, 7, 3);
+            for (int lever = 0; lever < 3; lever++) {
+                trouble(y, DEAD, lever, 0);
+                trouble(y, SWAPPED, lever, (lever + 1) % 3);
+            }
+            y.strap(1 << held, 0);
+            y.test(1 << held, 3);
+            y.test(7, 3);
+            Due.is(0, y.sees(0, 0), "30: a strap on lever " + held + " alone, which is pulled");
+            Due.is(0, y.sees(1, 0), "30: a strap on lever " + held + " alone, all are pulled");
+        }
     }
 
     private static void seesStrapsOff() {
