@@ -315,7 +315,7 @@ public final class PaperEdgeTest {
     private static void farOfOneReadingAlone() {
         LeverCurtain x = known("ab", "abcdefgh");
         for (int hand = 0; hand < 4; hand++) {
-            read(x, hand, 7, "abababab");
+            read(x, hand, 7, "babababa");
         }
         read(x, 1, 7, "b");
         Due.is(1, x.far(1, 7, 0), "37: between two of eight letters");

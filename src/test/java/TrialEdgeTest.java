@@ -30,6 +30,7 @@ public final class TrialEdgeTest {
         coverNone();
         coverFewestFirst();
         coverLowerWhereTwoDiffer();
+        coverOfWhatSeveralSee();
         coverAllEight();
         nameWithin();
         namesBySeeds();
@@ -365,6 +366,23 @@ public final class TrialEdgeTest {
         Due.is(0b0101, y.cover(0), "31: 0 and 2 before 1 and 3");
         y.test(0b1110, 1);
         Due.is(0b00101, y.cover(0), "31: 0 and 2 before 0 and 4");
+    }
+
+    /** What several of them see counts once. */
+    private static void coverOfWhatSeveralSee() {
+        LeverCurtain x = booth(4, 15, 4);
+        for (int lever = 0; lever < 3; lever++) {
+            trouble(x, DEAD, lever, 0);
+        }
+        x.test(0b0011, 1);
+        x.test(0b0110, 1);
+        x.test(0b0010, 1);
+        Due.is(0b011, x.cover(0), "31: two that both see one of three");
+        x.test(0b0101, 1);
+        Due.is(0b0011, x.cover(0), "31: 0 and 1 before 0 and 3, 1 and 3, 2 and 3");
+        trouble(x, DEAD, 3, 0);
+        x.test(0b1011, 1);
+        Due.is(0b10010, x.cover(0), "31: 1 and 4 before 3 and 4");
     }
 
     private static void coverAllEight() {
